@@ -6,6 +6,7 @@ public final class AuditorsAndThievesTest {
     public static void main(String[] args) {
         fishTakesDearestFirst();
         fishTakesSmallestNumberOfSeveral();
+        fishTakesCheapestToo();
         fishLimits();
         fishRefusals();
         auditEmptiesLayer();
@@ -61,6 +62,14 @@ public final class AuditorsAndThievesTest {
         due.same("fish(0, 2)", x.fish(0, 2), 18);
         due.same("coins(0, 1), later", x.coins(0, 1), 0);
         due.same("coins(0, 2), later", x.coins(0, 2), 1);
+    }
+
+    private static void fishTakesCheapestToo() {
+        WishWell x = new WishWell();
+        x.addLand(1, 4);
+        throwCoins(x, 0, 3);
+        due.same("fish(0, 2), coins of 1", x.fish(0, 2), 2);
+        due.same("coins(0, 0), 1 left", x.coins(0, 0), 1);
     }
 
     private static void fishLimits() {

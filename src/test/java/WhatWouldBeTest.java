@@ -14,6 +14,7 @@ public final class WhatWouldBeTest {
         lookingAheadChangesNothing();
         richestLayer();
         changeFewestCoins();
+        changeDearLandFirst();
         changeBoundedByCoins();
         changeLimits();
         changeRefusals();
@@ -263,6 +264,25 @@ public final class WhatWouldBeTest {
             due.same("change(" + pence[i] + ") from several layers", x.change(pence[i]), want[i]);
         }
         due.same("coins have sunk", x.coins(0, 0) < 5 ? 1 : 0, 1);
+    }
+
+    private static void changeDearLandFirst() {
+        WishWell x = new WishWell();
+        x.addLand(10, 9);
+        x.addLand(5, 9);
+        x.addLand(1, 9);
+        for (int i = 0; i < 2; i++) {
+            x.wish(0, 3);
+            x.wish(1, 3);
+        }
+        for (int i = 0; i < 12; i++) {
+            x.wish(2, 3);
+        }
+        int[] pence = {5, 10, 12, 15, 20, 25, 30, 42, 43};
+        int[] want = {1, 1, 3, 2, 2, 3, 4, 16, -1};
+        for (int i = 0; i < pence.length; i++) {
+            due.same("change(" + pence[i] + "), dear lands first", x.change(pence[i]), want[i]);
+        }
     }
 
     private static void changeBoundedByCoins() {
