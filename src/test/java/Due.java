@@ -28,6 +28,21 @@ final class Due {
         judge(got.equals(want), call, got, want);
     }
 
+    /** All lines have to be the same; the first ones that are not are told. */
+    void same(String call, String[] got, String[] want) {
+        int lines = Math.max(got.length, want.length);
+        int told = 0;
+        for (int i = 0; i < lines && told < 3; i++) {
+            String left = i < got.length ? got[i] : "nothing";
+            String right = i < want.length ? want[i] : "nothing";
+            if (!left.equals(right)) {
+                told++;
+                same(call, left, right);
+            }
+        }
+        asked += told == 0 ? 1 : 0;
+    }
+
     /** A call that throws has to throw just this class, and to change nothing. */
     void refused(String call, Class<? extends Exception> want, WishWell well, Call made) {
         long before = well.digest();

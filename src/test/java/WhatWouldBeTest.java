@@ -362,43 +362,14 @@ public final class WhatWouldBeTest {
     }
 
     private static void digestOfAll() {
-        due.same("digest() of a new well", new WishWell().digest(), digestByAnswers(new WishWell()));
+        due.same("digest() of a new well", new WishWell().digest(), Seen.digestOf(new WishWell()));
         WishWell x = tidalWell();
         int[] tide = {1, 2, 3, 0, 5, 6, 7};
         for (int weekday = 0; weekday < 7; weekday++) {
             due.same("tide as before", x.setTide(weekday, tide[weekday]), tide[weekday]);
         }
-        due.same("digest()", x.digest(), digestByAnswers(x));
+        due.same("digest()", x.digest(), Seen.digestOf(x));
         x.pass(100);
-        due.same("digest() 100 days later", x.digest(), digestByAnswers(x));
-    }
-
-    private static long digestByAnswers(WishWell x) {
-        long d = 821;
-        for (int what = 0; what <= 10; what++) {
-            d = d * 31 + x.count(what);
-        }
-        for (int weekday = 0; weekday < 7; weekday++) {
-            int many = x.setTide(weekday, 0);
-            x.setTide(weekday, many);
-            d = d * 31 + many;
-        }
-        for (int land = 0; land < x.count(1); land++) {
-            for (int what = 0; what <= 4; what++) {
-                d = d * 31 + x.land(land, what);
-            }
-            d = d * 31 + x.missing(land);
-        }
-        for (int layer = 0; layer < 5; layer++) {
-            for (int land = 0; land < x.count(1); land++) {
-                d = d * 31 + x.coins(layer, land);
-            }
-        }
-        for (int wish = 0; wish < x.count(2); wish++) {
-            for (int what = 0; what <= 4; what++) {
-                d = d * 31 + x.told(wish, what);
-            }
-        }
-        return d;
+        due.same("digest() 100 days later", x.digest(), Seen.digestOf(x));
     }
 }
